@@ -55,10 +55,6 @@ public final class LoafMarket {
             input[i] = (byte) FIRST_TEXT.charAt(i);
         }
         loader.read(length, state);
-        pastCount = 0;
-        inputLength = 0;
-        outputLength = 0;
-        latestError = 0;
         latestErrorPosition = NONE;
     }
 
@@ -1088,10 +1084,13 @@ public final class LoafMarket {
             for (int i = 0; i < market.customers.count; i++) {
                 insertBids(i, market.customers.limit[i], market.customers.bidsOf(i, kind));
             }
+            // The stock is in the order of age, so one kind stands there with ascending reserve prices already.
             loaves = 0;
-            for (int i = 0; i < market.stock.count; i++) {
+            for (int i = 0; i < market.stock.count && loaves < MOST_LOAVES; i++) {
                 if (market.stock.kind[i] == kind) {
-                    insertLoaf(i, market.reserveOf(i));
+                    loaf[loaves] = i;
+                    asked[loaves] = market.reserveOf(i);
+                    loaves++;
                 }
             }
             trades = 0;
@@ -1169,22 +1168,6 @@ public final class LoafMarket {
                 bids++;
             }
         }
-
-        /** Behind all loaves that are as cheap, which keeps the order of the stock. */
-        private void insertLoaf(int number, int lowest) {
-            if (loaves >= MOST_LOAVES) {
-                return;
-            }
-            int place = loaves;
-            while (place > 0 && asked[place - 1] > lowest) {
-                asked[place] = asked[place - 1];
-                loaf[place] = loaf[place - 1];
-                place--;
-            }
-            asked[place] = lowest;
-            loaf[place] = number;
-            loaves++;
-        }
     }
 
     /** Cuts the input text into tokens; type, start and end tell the token that is looked at. */
@@ -1205,7 +1188,6 @@ public final class LoafMarket {
 
         void begin(int textLength) {
             length = textLength < text.length ? textLength : text.length;
-            start = 0;
             end = 0;
             next();
         }
@@ -1447,10 +1429,8 @@ public final class LoafMarket {
             return kind;
         }
 
+        /** A name comes first in its statement, so no error has been found before it. */
         private int newName(State market) {
-            if (error != 0) {
-                return NONE;
-            }
             int name = tokens.name();
             if (tokens.type != Tokens.WORD) {
                 fail(NOT_ALLOWED);
@@ -1466,9 +1446,6 @@ public final class LoafMarket {
 
         /** A word of more than 4 letters is a name that no baker has. */
         private int knownBaker(Bakers bakers) {
-            if (error != 0) {
-                return NONE;
-            }
             int baker = find(bakers.name, bakers.count, tokens.name());
             if (tokens.type != Tokens.WORD) {
                 fail(NOT_ALLOWED);

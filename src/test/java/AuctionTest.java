@@ -5,6 +5,7 @@ public final class AuctionTest {
     public static void main(String[] args) {
         wrongInputs();
         reasons();
+        eachQuestionAlone();
         orderOfBids();
         orderOfLoaves();
         price();
@@ -59,6 +60,40 @@ public final class AuctionTest {
         check.due("one trade", equal.tradeCount(0), 1);
         check.due("its price", equal.clearingPrice(0), 9);
         check.due("its gain", equal.gain(0), 0);
+    }
+
+    /** Before each question one of another kind is asked. */
+    private static void eachQuestionAlone() {
+        LoafMarket m = new LoafMarket();
+        int[][] due = {{2, 2, 20, 0, 10}, {0, 0, -1, 2, 0}, {4, 0, -1, 3, 0}};
+        for (int kind = 0; kind < 3; kind++) {
+            int other = (kind + 1) % 3;
+            m.gain(other);
+            check.due("bidCount " + kind, m.bidCount(kind), due[kind][0]);
+            m.bidCount(other);
+            check.due("tradeCount " + kind, m.tradeCount(kind), due[kind][1]);
+            m.bidCount(other);
+            check.due("clearingPrice " + kind, m.clearingPrice(kind), due[kind][2]);
+            m.bidCount(other);
+            check.due("reasonNoTrades " + kind, m.reasonNoTrades(kind), due[kind][3]);
+            m.bidCount(other);
+            check.due("gain " + kind, m.gain(kind), due[kind][4]);
+        }
+        m.bidCount(1);
+        check.due("buyerOf(0, 1)", m.buyerOf(0, 1), 1);
+        m.bidCount(1);
+        check.due("loafOf(0, 1)", m.loafOf(0, 1), 4);
+        m.bidCount(0);
+        check.dueElement("buyerOf(1, 0)", () -> m.buyerOf(1, 0));
+        m.bidCount(0);
+        check.dueElement("loafOf(1, 0)", () -> m.loafOf(1, 0));
+        m.tradesAfter(0, 99);
+        check.due("after a question about the future", m.tradeCount(0), 2);
+        // the first question to a new object
+        check.due("gain", new LoafMarket().gain(0), 10);
+        check.due("buyerOf", new LoafMarket().buyerOf(0, 0), 1);
+        check.due("loafOf", new LoafMarket().loafOf(0, 0), 3);
+        check.due("reasonNoTrades", new LoafMarket().reasonNoTrades(2), 3);
     }
 
     private static void orderOfBids() {

@@ -157,10 +157,20 @@ public final class FaceTest {
         }
         long imports = text.lines().filter(line -> line.startsWith("import ")).count();
         check.due("imports", imports, 1);
+        String close = "";
         int length = 0;
         for (String line : text.lines().collect(Collectors.toList())) {
-            length = line.matches("    }|        }") ? 0 : length + 1;
-            check.dueTrue("a method of at most sixty lines, at " + line, length <= 90);
+            // A method begins at one of the two depths at which classes hold members.
+            if (close.isEmpty() && line.matches("( {4}| {8})[a-zA-Z].*\\) (throws .*)?\\{")) {
+                close = line.substring(0, line.length() - line.stripLeading().length()) + "}";
+                length = 0;
+            }
+            length++;
+            check.dueTrue("a method of at most sixty lines, at " + line, close.isEmpty() || length <= 60);
+            if (line.equals(close)) {
+                close = "";
+            }
         }
+        check.dueTrue("the last method has an end", close.isEmpty());
     }
 }

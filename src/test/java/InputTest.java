@@ -86,6 +86,20 @@ public final class InputTest {
         error("market 1 1 1  ", 1, 14);
         error("market 1 1;", 1, 10);
         error("market rye 1 1;", 1, 7);
+        error("xarket 1 1 1;", 1, 0);
+        for (String word : new String[] {"market", "baker", "bake", "customer", "auction", "sparrows", "hours"}) {
+            for (int i = 0; i < word.length(); i++) {
+                error(M + word.substring(0, i) + "q" + word.substring(i + 1) + " 1 1 1 ;", 1, 15);
+            }
+            error(M + word + "s 1;", 1, 15);
+        }
+        for (String word : new String[] {"rye", "wheat", "roll"}) {
+            for (int i = 0; i < word.length(); i++) {
+                error(M + "auction " + word.substring(0, i) + "q" + word.substring(i + 1) + ";", 1, 23);
+            }
+            error(M + "auction " + word.substring(1) + ";", 1, 23);
+            error(M + "auction " + word + "q;", 1, 23);
+        }
         error("market 1 1 1 1;", 1, 13);
         error("market 1 1 1:", 1, 12);
         error(M + M, 1, 15);
@@ -99,6 +113,9 @@ public final class InputTest {
         error(M + "auction rye", 1, 26);
         error(M + "auction ryes;", 1, 23);
         error(M + "auction 0;", 1, 23);
+        error(M + "auction ;", 1, 23);
+        error(M + "customer a 1 1 1 1;", 1, 26);
+        error(M + "baker a 1 1;bake a ;", 1, 34);
         error(M + "auction rye rye;", 1, 27);
         error(M + "hours;", 1, 20);
         error(M + "hours x;", 1, 21);
@@ -123,6 +140,9 @@ public final class InputTest {
         error("market 0 1 1;", 2, 7);
         error("market 1 100 1;", 2, 9);
         error("market 1 1 0;", 2, 11);
+        error("market 1 0 1;", 2, 9);
+        error("market 100 1 1;", 2, 7);
+        error("market 1 1 100;", 2, 11);
         fine("market 99 99 99;");
         error(M + "baker a 0 1;", 2, 23);
         error(M + "baker a 13 1;", 2, 23);
@@ -262,6 +282,9 @@ public final class InputTest {
         check.due("hour after a text of 600 bytes", m.hour(), hours);
         error("market 1 1 1;hours " + "0".repeat(580) + "1", 1, 600);
         error("z".repeat(600), 1, 0);
+        // the name is the last that fits into the buffer
+        error(M + " ".repeat(575) + "baker abcd", 1, 600);
+        error(M + " ".repeat(574) + "baker abcde", 2, 595);
     }
 
     private static void error(String text, int code, int position) {

@@ -241,6 +241,7 @@ public final class QuestionTest {
         m.passHours(2);
         check.dueD("meanAge of 14", m.meanAge(), 30.0 / 14.0);
         check.dueD("meanAge of none", Use.loaded("market 1 1 1;baker a 3 2;bake a rye;hours 1;").meanAge(), 0.0);
+        check.dueD("meanAge of one", Use.loaded("market 9 9 9;baker a 1 1;bake a rye;hours 8;").meanAge(), 7.0);
         LoafMarket thirds = Use.loaded("market 9 9 9;baker a 1 1;bake a rye;hours 1;bake a rye;hours 1;bake a rye;hours 1;hours 1;bake a rye;hours 1;bake a rye;hours 1;bake a rye;hours 1;");
         check.dueD("meanAge of 6", thirds.meanAge(), 18.0 / 6.0);
         thirds.bake(0, 0);

@@ -216,6 +216,8 @@ public final class TimeTest {
         check.due("though there is a trade", edge.tradesAfter(0, 25), 1);
         edge.passHours(1);
         check.due("now it is hour 24", edge.bestHour(0), 24);
+        LoafMarket one = Use.loaded("market 9 2 9;baker a 1 1;bake a wheat;hours 1;customer c wheat 1 1 1 99;");
+        check.due("a sum of one coin counts", one.bestHour(1), 10);
         // two trades at a low price bring less than one at a high price, and equal sums go to the first
         LoafMarket sums = Use.loaded("market 9 20 9;baker a 2 1;bake a wheat;hours 1;customer c wheat 1 20 20 9;customer d wheat 1 10 10 99;");
         check.due("one loaf for 20", sums.bestHour(1), 0);
