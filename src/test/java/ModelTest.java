@@ -2,7 +2,7 @@ import java.nio.charset.StandardCharsets;
 import java.util.ArrayDeque;
 import java.util.Deque;
 
-/** Long runs of calls on LoafMarket and on Model, whose answers must be the same; each object gets 512 calls. */
+/** Long runs of calls on LoafMarket and on Model, whose answers must be the same; each object gets at most 512 calls. */
 public final class ModelTest {
     private static final int RUNS = 3000;
     private static final int CALLS = 512;
@@ -49,7 +49,7 @@ public final class ModelTest {
             feed(mended(text()));
             load();
         }
-        while (calls < CALLS - 40) {
+        while (calls < CALLS - 150) {
             if (next(3) == 0) {
                 change();
             } else {
@@ -61,6 +61,7 @@ public final class ModelTest {
             undo();
             question();
         }
+        check.dueTrue("at most 512 calls, not " + calls, calls <= CALLS);
     }
 
     private int next(int bound) {
