@@ -189,10 +189,16 @@ public final class ChangeTest {
         check.dueText("the first state", Use.state(m), first);
         check.due("restore(0)", m.restore(0), 7);
         check.dueText("the second state", Use.state(m), second);
-        check.due("save over it", m.save(1), 7);
-        m.passHours(1);
-        check.due("restore(1)", m.restore(1), 7);
-        check.dueText("the second state", Use.state(m), second);
+        // a slot that is saved to again
+        LoafMarket over = new LoafMarket();
+        over.save(1);
+        over.passHours(4);
+        over.auction(2);
+        String later = Use.state(over);
+        check.due("save over it", over.save(1), 7);
+        over.passHours(1);
+        check.due("restore(1)", over.restore(1), 7);
+        check.dueText("the later state", Use.state(over), later);
         // undo leaves the slots alone
         LoafMarket u = new LoafMarket();
         u.passHours(1);
@@ -212,22 +218,22 @@ public final class ChangeTest {
     private static void undo() {
         LoafMarket m = new LoafMarket();
         check.dueState("undo of nothing", m::undo);
-        String[] states = new String[13];
+        int[] crumbs = new int[13];
         for (int i = 0; i < 12; i++) {
-            states[i] = Use.state(m);
+            crumbs[i] = m.crumbs();
             m.scatter(i + 1);
             check.due("undoDepth", m.undoDepth(), Math.min(8, i + 1));
         }
         for (int i = 7; i >= 0; i--) {
             check.due("undo", m.undo(), i);
             check.due("undoDepth", m.undoDepth(), i);
-            check.dueText("the state before", Use.state(m), states[4 + i]);
+            check.due("the crumbs before", m.crumbs(), crumbs[4 + i]);
         }
         check.dueState("no call is remembered any more", m::undo);
-        check.dueText("and nothing changes", Use.state(m), states[4]);
+        check.due("and nothing changes", m.crumbs(), crumbs[4]);
         m.scatter(1);
         check.due("a new call is remembered", m.undo(), 0);
-        check.dueText("the state before", Use.state(m), states[4]);
+        check.due("the crumbs before", m.crumbs(), crumbs[4]);
         // a load does not discard the remembered calls
         LoafMarket l = new LoafMarket();
         l.scatter(5);
@@ -241,37 +247,30 @@ public final class ChangeTest {
     }
 
     private static void undoOfEach() {
-        LoafMarket m = new LoafMarket();
-        String before = Use.state(m);
-        m.bake(0, 2);
-        undone(m, "bake", before);
-        m.auction(0);
-        undone(m, "auction", before);
-        m.auction(1);
-        undone(m, "auction without trades", before);
-        Use.join(m, "new", 1, 2, 3, 4, 5);
-        undone(m, "joinQueue", before);
-        check.due("the ticket comes again", Use.join(m, "new", 1, 2, 3, 4, 5), 3);
-        undone(m, "joinQueue", before);
-        m.sendAway(1);
-        undone(m, "sendAway", before);
-        m.setBasePrice(2, 8);
-        undone(m, "setBasePrice to what it is", before);
-        m.setBasePrice(1, 50);
-        undone(m, "setBasePrice", before);
-        m.scatter(99);
-        undone(m, "scatter", before);
-        m.passHours(60);
-        undone(m, "passHours", before);
-        m.save(0);
-        m.restore(0);
-        undone(m, "restore", before);
-        Use.feed(m, "market 1 2 3;");
-        m.load();
-        undone(m, "load", before);
+        undone("bake", m -> m.bake(0, 2));
+        undone("auction", m -> m.auction(0));
+        undone("auction without trades", m -> m.auction(1));
+        undone("joinQueue", m -> Use.join(m, "new", 1, 2, 3, 4, 5));
+        undone("sendAway", m -> m.sendAway(1));
+        undone("setBasePrice to what it is", m -> m.setBasePrice(2, 8));
+        undone("setBasePrice", m -> m.setBasePrice(1, 50));
+        undone("scatter", m -> m.scatter(99));
+        undone("passHours", m -> m.passHours(60));
+        undone("restore", m -> m.save(0) + m.restore(0));
+        undone("load", m -> {
+            Use.feed(m, "market 1 2 3;");
+            return m.load();
+        });
+        LoafMarket again = new LoafMarket();
+        check.due("the ticket", Use.join(again, "new", 1, 2, 3, 4, 5), 3);
+        again.undo();
+        check.due("the ticket comes again", Use.join(again, "new", 1, 2, 3, 4, 5), 3);
     }
 
-    private static void undone(LoafMarket m, String call, String before) {
+    private static void undone(String call, Twin.Act act) {
+        LoafMarket m = new LoafMarket();
+        String before = Use.state(m);
+        act.run(m);
         check.due("undoDepth after " + call, m.undoDepth(), 1);
         check.due("undo of " + call, m.undo(), 0);
         check.dueText("the state before " + call, Use.state(m), before);
