@@ -18,6 +18,7 @@ public final class EdgeAuctionTest {
         s4OrderOfLoaves();
         p35Trades();
         p36Price();
+        p34to40EachQuestionAlone();
         p37Reasons();
         p38p39Trades();
         p40Gain();
@@ -173,6 +174,34 @@ public final class EdgeAuctionTest {
         check.due("P36 the reserve price is 0 and a third bid is 2", free.clearingPrice(2), 2);
     }
 
+    /** Bids and loaves of a question before are not those of this one. */
+    private static void p34to40EachQuestionAlone() {
+        String text = "market 9 9 9;baker a 3 1;baker b 1 1;bake a roll;bake b rye;hours 1;"
+                + "customer x roll 9 99 999 9;customer y rye 1 10 10 9;customer z wheat 2 8 99 9;";
+        for (int other = 0; other < 3; other++) {
+            int[] got = new int[7];
+            for (int i = 0; i < 7; i++) {
+                LoafMarket m = Use.loaded(text);
+                m.tradeCount(2);
+                m.tradeCount(other);
+                got[i] = ask(m, Integer.toString(34 + i));
+            }
+            String what = " after a question about kind " + other;
+            check.due("P34" + what, got[0], 1);
+            check.due("P35" + what, got[1], 1);
+            check.due("P36" + what, got[2], 9);
+            check.due("P37" + what, got[3], 1);
+            check.due("P38" + what, got[4], 1);
+            check.due("P39" + what, got[5], 3);
+            check.due("P40" + what, got[6], 1);
+        }
+        for (int kind = 0; kind < 3; kind++) {
+            LoafMarket m = Use.loaded(text);
+            m.tradesAfter(2, 0);
+            check.due("P36 after a question about the future, kind " + kind, m.clearingPrice(kind), kind == 0 ? 9 : kind == 1 ? LoafMarket.NONE : 99);
+        }
+    }
+
     private static void p37Reasons() {
         check.due("P37 neither loaves nor bids", Use.loaded(NO_LOAVES).reasonNoTrades(0), 1);
         check.due("P37 no loaves, but bids", Use.loaded(NO_LOAVES + "customer x rye 1 9 9 9;").reasonNoTrades(0), 1);
@@ -307,6 +336,7 @@ public final class EdgeAuctionTest {
         check.dueD("P52 none sold", Use.loaded(THREE).soldShare(), 0.0f);
         check.dueD("P52 one of three", Use.loaded(THREE + "customer x rye 1 9 9 9;auction rye;").soldShare(), 1.0f / 3.0f);
         check.dueD("P52 two of three", Use.loaded(THREE + "customer x rye 2 9 18 9;auction rye;").soldShare(), 2.0f / 3.0f);
+        check.dueD("P52 the only one", Use.loaded("market 9 9 9;baker a 1 1;bake a rye;hours 1;customer x rye 1 9 9 9;auction rye;").soldShare(), 1.0f);
         check.dueD("P52 all", Use.loaded(THREE + "customer x rye 3 9 27 9;auction rye;").soldShare(), 1.0f);
         check.dueD("P52 two of six, three of them wasted", Use.loaded(THREE + "customer x rye 2 9 18 9;auction rye;hours 30;bake a roll;hours 1;").soldShare(), 2.0f / 6.0f);
     }

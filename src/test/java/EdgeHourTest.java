@@ -17,6 +17,7 @@ public final class EdgeHourTest {
         s6Wasted();
         s6Left();
         p41Thirty();
+        p41OthersMoveUp();
         p42p43p44Indexes();
         p45p46Differences();
         p47p48p49Range();
@@ -181,6 +182,11 @@ public final class EdgeHourTest {
             check.due("P43 the latest of " + number, m.eventFirst(count - 1), number - 1);
             check.due("P43 the oldest of " + number, m.eventFirst(0), number - count);
         }
+        StringBuilder due = new StringBuilder();
+        for (int ticket = 2; ticket < 32; ticket++) {
+            due.append(ticket == 2 ? "" : " ").append("3:").append(ticket).append(":2");
+        }
+        check.dueText("P42 P43 P44 the latest 30 of 32", Use.events(m), due.toString());
         check.due("P42 the type moves with it", m.eventType(0), LoafMarket.LEFT);
         check.due("P44 the second number moves with it", m.eventSecond(0), 2);
         // 30 baked loaves that are wasted in one hour push all others out
@@ -191,6 +197,42 @@ public final class EdgeHourTest {
         LoafMarket kept = Use.loaded(bakers + "baker d 1 9;bake a roll;bake b roll;hours 1;bake d rye;hours 4;");
         check.due("P41 26 events", kept.eventCount(), 26);
         check.due("P42 the oldest is the first one baked", kept.eventType(0), LoafMarket.BAKED);
+    }
+
+    /** Thirty events of two types, and then one more. */
+    private static void p41OthersMoveUp() {
+        StringBuilder text = new StringBuilder("market 99 9 9;baker a 2 1;baker b 3 1;");
+        String[] all = new String[30];
+        for (int i = 0; i < 30; i++) {
+            boolean first = i % 3 == 0;
+            text.append(first ? "bake a rye;hours 1;" : i % 3 == 1 ? "bake b rye;hours 1;" : "customer c rye 1 1 1 1;hours 1;");
+            all[i] = first ? "0:0:2" : i % 3 == 1 ? "0:1:3" : "3:" + i / 3 + ":1";
+        }
+        LoafMarket m = new LoafMarket();
+        loadLong(m, text.toString());
+        check.dueText("P41 thirty events", Use.events(m), String.join(" ", all));
+        m.bake(1, 0);
+        m.passHours(1);
+        check.dueText("P41 the oldest is forgotten", Use.events(m), String.join(" ", java.util.Arrays.copyOfRange(all, 1, 30)) + " 0:1:3");
+        m.undo();
+        check.dueText("S8 and comes back with undo", Use.events(m), String.join(" ", all));
+    }
+
+    /** The text is longer than the buffer, so that its last statements come as calls. */
+    private static void loadLong(LoafMarket m, String text) {
+        int end = text.lastIndexOf(';', 599) + 1;
+        Use.feed(m, text.substring(0, end));
+        m.load();
+        for (String statement : text.substring(end).split(";")) {
+            String[] words = statement.split(" ");
+            if (words[0].equals("bake")) {
+                m.bake(words[1].charAt(0) - 'a', 0);
+            } else if (words[0].equals("hours")) {
+                m.passHours(1);
+            } else {
+                Use.join(m, words[1], 0, 1, 1, 1, 1);
+            }
+        }
     }
 
     private static void p42p43p44Indexes() {

@@ -19,15 +19,18 @@ public final class EdgeInputTest {
         p4BufferIsEmptyAfterwards();
         p4ErrorLeavesTheRest();
         p4ReturnsTheQueue();
+        p4NothingOfAnotherMarketIsLeft();
         p4ReplacesTheWholeState();
         p5p6LatestCall();
         s7SeparatorsAndTokens();
         s7WordsAndNumbers();
+        s7FirstWords();
         s7MarketIsFirstAndOnlyThere();
         s7TextEndsTooEarly();
         s7TokenNotAllowed();
         s7RangesOfNumbers();
         s7LongNumbers();
+        s7LastBytesOfTheBuffer();
         s7NewNames();
         s7NamesTaken();
         s7NameAfterBake();
@@ -156,12 +159,30 @@ public final class EdgeInputTest {
         cut.truncateInput(12);
         check.dueArgument("P3 one byte less", cut::load);
         check.due("P3 is one byte less", cut.errorPosition(), 12);
+        cut("P3 within a word", "market 1 1 1;auction rye;", 23, "1 at 21");
+        cut("P3 within a number", "market 1 1 1;hours 12;", 20, "1 at 20");
+        cut("P3 before a semicolon", "market 1 1 1;hours 12;", 21, "1 at 21");
+        cut("P3 within a name", "market 1 1 1;baker abcdef 1 1;", 23, "1 at 23");
+        cut("P3 to separators", "market 1 1 1;  hours 1;", 15, "fine");
+        LoafMarket name = new LoafMarket();
+        Use.feed(name, "zoeann");
+        name.truncateInput(3);
+        name.joinQueue(0, 1, 1, 1, 1);
+        check.dueText("P3 a name that was cut", Use.customerName(name, 3), "zoe");
         LoafMarket again = new LoafMarket();
         Use.feed(again, "market 1 2 3;hours 9;");
         again.truncateInput(0);
         again.appendInput(0x6d61726b, 0x65742034, 0x20352036, 0x3b202020, 0x20202020);
         again.load();
         check.due("P3 the old bytes do not come back", again.hour(), 0);
+    }
+
+    private static void cut(String what, String text, int length, String due) {
+        LoafMarket m = new LoafMarket();
+        Use.feed(m, text);
+        m.truncateInput(length);
+        Twin.tryLoad(m);
+        check.dueText(what, m.errorCode() == 0 ? "fine" : Twin.look("error", m), due);
     }
 
     // ---- promise 4 ----
@@ -209,6 +230,32 @@ public final class EdgeInputTest {
             text.append("customer ").append((char) ('k' + i)).append(" rye 1 1 1 ").append(i == 4 ? 1 : 9).append(';');
         }
         return text.toString();
+    }
+
+    /** Neither a text with an error nor a question about the future leaves anything in the next market. */
+    private static void p4NothingOfAnotherMarketIsLeft() {
+        String full = "market 9 1 1;baker a 12 1;baker b 12 9;bake a rye;hours 1;bake a roll;bake b rye;hours 1;customer c rye 2 9 99 9;customer d rye 1 1 1 1;customer e roll 1 1 9 99;auction rye;hours 4;sparrows 7 77;bake a rye;";
+        String next = "market 1 2 3;baker x 1 1;baker y 2 2;";
+        String due = "0 0 0 base 1 2 3 | x 1 -1 0 0 | y 2 -1 0 0 |  |  | 0.0 0 0";
+        LoafMarket error = new LoafMarket();
+        Use.feed(error, full + "x");
+        check.dueArgument("P4 a text with an error at its end", error::load);
+        Use.feed(error, next);
+        check.due("P4 then one without", error.load(), 0);
+        check.dueText("P4 is as the text says", Use.state(error), due);
+        check.due("S3 with tickets from 0 on", Use.join(error, "c", 0, 1, 1, 1, 1), 0);
+        LoafMarket asked = Use.loaded(full);
+        for (int hours : new int[] {0, 1, 100}) {
+            asked.loavesAfter(hours);
+            Use.feed(asked, next);
+            check.due("P4 after a question about the future", asked.load(), 0);
+            check.dueText("P4 is as the text says", Use.state(asked), due);
+            asked.undo();
+        }
+        LoafMarket loaded = Use.loaded(full);
+        Use.feed(loaded, next);
+        loaded.load();
+        check.dueText("P4 after another market", Use.state(loaded), due);
     }
 
     private static void p4ReplacesTheWholeState() {
@@ -287,6 +334,9 @@ public final class EdgeInputTest {
         verdict("S7 a sign before a number is a token", "market +1 1 1;", "1 at 7");
         verdict("S7 a point ends a number", "market 1.1 1;", "1 at 8");
         for (String kind : new String[] {"rye", "wheat", "roll"}) {
+            for (int i = 0; i < kind.length(); i++) {
+                verdict("S7 a letter of " + kind, M + "auction " + kind.substring(0, i) + "q" + kind.substring(i + 1) + ";", "1 at 23");
+            }
             verdict("S7 the kind " + kind, M + "auction " + kind + ";", "fine");
             verdict("S7 a letter more than " + kind, M + "auction " + kind + "s;", "1 at 23");
             verdict("S7 a letter less than " + kind, M + "auction " + kind.substring(0, kind.length() - 1) + ";", "1 at 23");
@@ -297,6 +347,20 @@ public final class EdgeInputTest {
     }
 
     // ---- section 7: statements ----
+
+    private static void s7FirstWords() {
+        for (String statement : STATEMENTS) {
+            String word = statement.substring(0, statement.indexOf(' '));
+            for (int i = 0; i < word.length(); i++) {
+                verdict("S7 a letter of " + word, M + word.substring(0, i) + "q" + word.substring(i + 1) + statement.substring(word.length()), "1 at 15");
+            }
+            verdict("S7 a letter more", M + word + "s" + statement.substring(word.length()), "1 at 15");
+            verdict("S7 a letter less", M + statement.substring(1), "1 at 15");
+        }
+        for (String word : new String[] {"qarket", "mqrket", "maqket", "marqet", "markqt", "markeq", "marke", "arket", "markets"}) {
+            verdict("S7 a letter of market", word + " 1 1 1;", "1 at 0");
+        }
+    }
 
     private static void s7MarketIsFirstAndOnlyThere() {
         verdict("S7 an empty text", "", "1 at 0");
@@ -401,6 +465,23 @@ public final class EdgeInputTest {
         verdict("S7 60 behind zeros", start + "0".repeat(500) + "60;", "fine");
         verdict("S7 61 behind zeros", start + "0".repeat(500) + "61;", "2 at 19");
         verdict("S7 a digit and zeros", start + "1" + "0".repeat(500) + ";", "2 at 19");
+    }
+
+    private static void s7LastBytesOfTheBuffer() {
+        verdict("S7 a statement in the last bytes", full("hours 9;"), "fine");
+        verdict("S7 a name in the last bytes", full("baker abcd"), "1 at 600");
+        verdict("S7 a name too long in the last bytes", full("baker abcde"), "2 at 595");
+        verdict("S7 a name after bake in the last bytes", full("baker abcd 1 1;bake abcd"), "1 at 600");
+        verdict("S7 a kind in the last bytes", full("auction rye"), "1 at 600");
+        verdict("S7 a number in the last bytes", full("hours 60"), "1 at 600");
+        verdict("S7 a number out of range in the last bytes", full("hours 61"), "2 at 598");
+        verdict("S7 a word in the last bytes", full("hours"), "1 at 600");
+        verdict("S7 a wrong token as the last byte", full("hours 9,"), "1 at 599");
+        verdict("S7 a separator as the last byte", full("hours 9 "), "1 at 600");
+    }
+
+    private static String full(String last) {
+        return M + " ".repeat(600 - M.length() - last.length()) + last;
     }
 
     // ---- section 7: names ----

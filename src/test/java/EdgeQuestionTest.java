@@ -378,6 +378,9 @@ public final class EdgeQuestionTest {
         check.due("P31 one more hour than none", now.hoursUntilStale(0), 4);
         now.setBasePrice(2, 1);
         check.due("P31 stale now", now.hoursUntilStale(0), 0);
+        LoafMarket since = Use.loaded("market 9 9 9;baker a 1 1;bake a roll;hours 1;hours 7;");
+        since.setBasePrice(2, 1);
+        check.due("P31 stale since three hours, were it this price then", since.hoursUntilStale(0), 0);
         Twin.leaves(check, "P31 hoursUntilStale", Twin::rich, m -> m.hoursUntilStale(0), Twin.PARTS);
     }
 
@@ -420,7 +423,7 @@ public final class EdgeQuestionTest {
     }
 
     private static void s1Wheat() {
-        reserves("wheat", 1, new int[][] {{10, 1, 10}, {10, 2, 9}, {10, 3, 9}, {10, 19, 1}, {10, 20, 0}, {10, 21, 0}, {1, 19, 1}, {1, 20, 0},
+        reserves("wheat", 1, new int[][] {{10, 1, 10}, {10, 2, 9}, {10, 3, 9}, {10, 19, 1}, {10, 20, 0}, {10, 21, 0}, {10, 23, 0}, {20, 21, 0}, {20, 22, 0}, {1, 40, 0}, {1, 19, 1}, {1, 20, 0},
             {19, 1, 19}, {20, 1, 19}, {21, 1, 20}, {40, 1, 38}, {99, 1, 95}, {99, 19, 5}, {99, 20, 0}, {99, 21, 0}, {99, 999, 0}, {3, 6, 3}, {3, 7, 2}, {3, 13, 2}, {3, 14, 1}});
     }
 
