@@ -4,12 +4,26 @@ final class Check {
         int run();
     }
 
+    interface Part {
+        void run();
+    }
+
     private final String test;
     private int checked;
     private int wrong;
 
     Check(String test) {
         this.test = test;
+    }
+
+    /** A part that a stray exception ends is told under its name, and the parts behind it still run. */
+    void part(String name, Part part) {
+        checked++;
+        try {
+            part.run();
+        } catch (RuntimeException e) {
+            say(name + " ended early by " + e);
+        }
     }
 
     void due(String what, long got, long want) {

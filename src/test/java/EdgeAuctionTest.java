@@ -10,23 +10,23 @@ public final class EdgeAuctionTest {
     private static final String STEPS = "market 20 20 20;baker a 1 1;bake a wheat;hours 1;bake a wheat;hours 1;bake a wheat;hours 1;";
 
     public static void main(String[] args) {
-        kinds();
-        p34Purses();
-        p34Wanted();
-        p34MostBids();
-        s4OrderOfBids();
-        s4OrderOfLoaves();
-        p35Trades();
-        p36Price();
-        p34to40EachQuestionAlone();
-        p37Reasons();
-        p38p39Trades();
-        p40Gain();
-        s4MoneyAndWants();
-        s4Crumbs();
-        s4WhoLeaves();
-        p54Auction();
-        p52SoldShare();
+        check.part("P34 P35 P36 P37 P38 P39 P40 P54", EdgeAuctionTest::kinds);
+        check.part("P34", EdgeAuctionTest::p34Purses);
+        check.part("P34", EdgeAuctionTest::p34Wanted);
+        check.part("P34", EdgeAuctionTest::p34MostBids);
+        check.part("S4", EdgeAuctionTest::s4OrderOfBids);
+        check.part("S4", EdgeAuctionTest::s4OrderOfLoaves);
+        check.part("P35", EdgeAuctionTest::p35Trades);
+        check.part("S4 P36", EdgeAuctionTest::p36Price);
+        check.part("P34 P35 P36 P37 P38 P39 P40", EdgeAuctionTest::p34to40EachQuestionAlone);
+        check.part("S4 P37", EdgeAuctionTest::p37Reasons);
+        check.part("P38 P39", EdgeAuctionTest::p38p39Trades);
+        check.part("P40", EdgeAuctionTest::p40Gain);
+        check.part("S4", EdgeAuctionTest::s4MoneyAndWants);
+        check.part("S4", EdgeAuctionTest::s4Crumbs);
+        check.part("S4", EdgeAuctionTest::s4WhoLeaves);
+        check.part("P54", EdgeAuctionTest::p54Auction);
+        check.part("P52", EdgeAuctionTest::p52SoldShare);
         check.end();
     }
 
@@ -147,7 +147,7 @@ public final class EdgeAuctionTest {
     }
 
     private static void price(String what, String text, int kind, int due) {
-        check.due("P36 " + what, Use.loaded(text).clearingPrice(kind), due);
+        check.due("S4 P36 " + what, Use.loaded(text).clearingPrice(kind), due);
     }
 
     private static void p36Price() {
@@ -165,13 +165,13 @@ public final class EdgeAuctionTest {
         price("the highest there is", "market 99 1 1;baker a 1 1;bake a rye;hours 1;customer x rye 1 99 99 9;", 0, 99);
         LoafMarket free = Use.loaded("market 9 9 9;baker a 2 1;bake a roll;hours 1;hours 4;customer x roll 1 1 9 9;");
         free.setBasePrice(2, 1);
-        check.due("P36 the reserve price is 0 and there is no further bid", free.clearingPrice(2), 1);
+        check.due("S4 P36 the reserve price is 0 and there is no further bid", free.clearingPrice(2), 1);
         Use.join(free, "y", 2, 1, 2, 9, 9);
-        check.due("P36 the reserve price is 0 and both are sold", free.clearingPrice(2), 1);
+        check.due("S4 P36 the reserve price is 0 and both are sold", free.clearingPrice(2), 1);
         Use.join(free, "z", 2, 1, 3, 9, 9);
-        check.due("P36 the reserve price is 0 and a third bid is 1", free.clearingPrice(2), 1);
+        check.due("S4 P36 the reserve price is 0 and a third bid is 1", free.clearingPrice(2), 1);
         Use.join(free, "w", 2, 1, 3, 9, 9);
-        check.due("P36 the reserve price is 0 and a third bid is 2", free.clearingPrice(2), 2);
+        check.due("S4 P36 the reserve price is 0 and a third bid is 2", free.clearingPrice(2), 2);
     }
 
     /** Bids and loaves of a question before are not those of this one. */
@@ -203,18 +203,18 @@ public final class EdgeAuctionTest {
     }
 
     private static void p37Reasons() {
-        check.due("P37 neither loaves nor bids", Use.loaded(NO_LOAVES).reasonNoTrades(0), 1);
-        check.due("P37 no loaves, but bids", Use.loaded(NO_LOAVES + "customer x rye 1 9 9 9;").reasonNoTrades(0), 1);
-        check.due("P37 loaves in the oven alone", Use.loaded("market 9 9 9;baker a 3 2;bake a rye;hours 1;").reasonNoTrades(0), 1);
-        check.due("P37 loaves of another kind alone", Use.loaded(THREE).reasonNoTrades(1), 1);
-        check.due("P37 loaves, but no customers", Use.loaded(THREE).reasonNoTrades(0), 2);
-        check.due("P37 loaves, but customers of another kind", Use.loaded(THREE + "customer x wheat 1 9 9 9;").reasonNoTrades(0), 2);
-        check.due("P37 loaves, but a purse below the limit", Use.loaded(THREE + "customer x rye 1 9 8 9;").reasonNoTrades(0), 2);
-        check.due("P37 the bid is one below", Use.loaded(THREE + "customer x rye 1 8 8 9;").reasonNoTrades(0), 3);
-        check.due("P37 the bid is as high", Use.loaded(THREE + "customer x rye 1 9 9 9;").reasonNoTrades(0), 0);
-        check.due("P37 the lowest reserve price counts", Use.loaded(STEPS + "customer x wheat 1 18 99 9;").reasonNoTrades(1), 0);
-        check.due("P37 one below the lowest", Use.loaded(STEPS + "customer x wheat 1 17 99 9;").reasonNoTrades(1), 3);
-        check.due("P37 the first bid counts", Use.loaded(STEPS + "customer x wheat 1 17 99 9;customer y wheat 1 18 99 9;").reasonNoTrades(1), 0);
+        check.due("S4 P37 neither loaves nor bids", Use.loaded(NO_LOAVES).reasonNoTrades(0), 1);
+        check.due("S4 P37 no loaves, but bids", Use.loaded(NO_LOAVES + "customer x rye 1 9 9 9;").reasonNoTrades(0), 1);
+        check.due("S4 P37 loaves in the oven alone", Use.loaded("market 9 9 9;baker a 3 2;bake a rye;hours 1;").reasonNoTrades(0), 1);
+        check.due("S4 P37 loaves of another kind alone", Use.loaded(THREE).reasonNoTrades(1), 1);
+        check.due("S4 P37 loaves, but no customers", Use.loaded(THREE).reasonNoTrades(0), 2);
+        check.due("S4 P37 loaves, but customers of another kind", Use.loaded(THREE + "customer x wheat 1 9 9 9;").reasonNoTrades(0), 2);
+        check.due("S4 P37 loaves, but a purse below the limit", Use.loaded(THREE + "customer x rye 1 9 8 9;").reasonNoTrades(0), 2);
+        check.due("S4 P37 the bid is one below", Use.loaded(THREE + "customer x rye 1 8 8 9;").reasonNoTrades(0), 3);
+        check.due("S4 P37 the bid is as high", Use.loaded(THREE + "customer x rye 1 9 9 9;").reasonNoTrades(0), 0);
+        check.due("S4 P37 the lowest reserve price counts", Use.loaded(STEPS + "customer x wheat 1 18 99 9;").reasonNoTrades(1), 0);
+        check.due("S4 P37 one below the lowest", Use.loaded(STEPS + "customer x wheat 1 17 99 9;").reasonNoTrades(1), 3);
+        check.due("S4 P37 the first bid counts", Use.loaded(STEPS + "customer x wheat 1 17 99 9;customer y wheat 1 18 99 9;").reasonNoTrades(1), 0);
     }
 
     private static void p38p39Trades() {

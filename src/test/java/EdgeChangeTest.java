@@ -8,29 +8,30 @@ public final class EdgeChangeTest {
             + "bake a rye;hours 1;bake a rye;hours 1;bake a rye;hours 1;bake a rye;hours 1;";
 
     public static void main(String[] args) {
-        p53Indexes();
-        p53Refused();
-        p53Begins();
-        p55Ranges();
-        p55Names();
-        p55NameStaysInTheBuffer();
-        p55TenCustomers();
-        p55NamesTaken();
-        p55OrderOfExceptions();
-        p55Ticket();
-        p56SendAway();
-        p57SetBasePrice();
-        p58Scatter();
-        p60WriteQueue();
-        p61OutputByte();
-        p62Save();
-        p63Restore();
-        p64Undo();
-        p65UndoDepth();
-        s8Undoable();
-        s8NotUndoable();
-        s8NoPartOfTheState();
-        s8QuestionsChangeNothing();
+        check.part("P53", EdgeChangeTest::p53Indexes);
+        check.part("P53", EdgeChangeTest::p53Refused);
+        check.part("P53", EdgeChangeTest::p53Begins);
+        check.part("P55", EdgeChangeTest::p55Ranges);
+        check.part("P55", EdgeChangeTest::p55Names);
+        check.part("P55", EdgeChangeTest::p55NameStaysInTheBuffer);
+        check.part("P55", EdgeChangeTest::p55TenCustomers);
+        check.part("P55", EdgeChangeTest::p55NamesTaken);
+        check.part("P55", EdgeChangeTest::p55OrderOfExceptions);
+        check.part("P55", EdgeChangeTest::p55Ticket);
+        check.part("P56", EdgeChangeTest::p56SendAway);
+        check.part("P57", EdgeChangeTest::p57SetBasePrice);
+        check.part("P58", EdgeChangeTest::p58Scatter);
+        check.part("P60", EdgeChangeTest::p60WriteQueue);
+        check.part("P61", EdgeChangeTest::p61OutputByte);
+        check.part("P62", EdgeChangeTest::p62Save);
+        check.part("P63", EdgeChangeTest::p63Restore);
+        check.part("P64", EdgeChangeTest::p64Undo);
+        check.part("P65", EdgeChangeTest::p65UndoDepth);
+        check.part("S8", EdgeChangeTest::s8Undoable);
+        check.part("S8", EdgeChangeTest::s8TheWholeState);
+        check.part("S8", EdgeChangeTest::s8NotUndoable);
+        check.part("S8", EdgeChangeTest::s8NoPartOfTheState);
+        check.part("S8", EdgeChangeTest::s8QuestionsChangeNothing);
         check.end();
     }
 
@@ -530,6 +531,40 @@ public final class EdgeChangeTest {
         check.due("S8 the market before the text", loads.crumbs(), 6);
         loads.undo();
         check.due("S8 the first market", loads.crumbs(), 1);
+    }
+
+    /** Two markets that differ in everything; what only shows later is looked at an hour later. */
+    private static void s8TheWholeState() {
+        String one = "market 9 8 7;baker a 3 2;baker b 2 4;bake a rye;hours 2;customer x rye 2 9 30 9;customer y wheat 1 2 3 4;auction rye;bake b roll;sparrows 5 55;hours 1;";
+        String two = "market 30 20 10;baker cc 1 1;hours 7;customer p roll 9 8 7 6;customer q rye 1 1 1 1;customer r rye 4 5 6 7;sparrows 1 11;";
+        for (int hours = 0; hours <= 1; hours++) {
+            String due = later(Use.loaded(one), hours);
+            LoafMarket undone = Use.loaded(one);
+            Use.feed(undone, two);
+            undone.load();
+            undone.undo();
+            check.dueText("S8 undo of load, " + hours + " hours later", later(undone, hours), due);
+            LoafMarket restored = Use.loaded(one);
+            restored.save(1);
+            Use.feed(restored, two);
+            restored.load();
+            restored.restore(1);
+            check.dueText("S8 restore, " + hours + " hours later", later(restored, hours), due);
+            restored = Use.loaded(two);
+            restored.save(0);
+            Use.feed(restored, one);
+            restored.load();
+            restored.restore(0);
+            restored.undo();
+            check.dueText("S8 undo of restore, " + hours + " hours later", later(restored, hours), due);
+        }
+    }
+
+    private static String later(LoafMarket m, int hours) {
+        Use.pass(m, hours);
+        m.bake(0, 1);
+        Use.join(m, "new", 1, 1, 1, 1, 1);
+        return Use.state(m);
     }
 
     private static void s8NotUndoable() {

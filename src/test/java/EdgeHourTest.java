@@ -5,28 +5,28 @@ public final class EdgeHourTest {
     private static final int MAX = Integer.MAX_VALUE;
 
     public static void main(String[] args) {
-        s5aOvens();
-        s5bStaleLoaves();
-        s5cSparrowsEat();
-        s5cSparrowComes();
-        s5cSparrowLeaves();
-        s5dPatience();
-        s5OrderWithinAnHour();
-        s6Baked();
-        s6Sold();
-        s6Wasted();
-        s6Left();
-        p41Thirty();
-        p41OthersMoveUp();
-        p42p43p44Indexes();
-        p45p46Differences();
-        p47p48p49Range();
-        p47SparrowsAfter();
-        p48LoavesAfter();
-        p49TradesAfter();
-        p50BestHour();
-        p51MeanAge();
-        p59PassHours();
+        check.part("S5a", EdgeHourTest::s5aOvens);
+        check.part("S5b", EdgeHourTest::s5bStaleLoaves);
+        check.part("S5c", EdgeHourTest::s5cSparrowsEat);
+        check.part("S5c", EdgeHourTest::s5cSparrowComes);
+        check.part("S5c", EdgeHourTest::s5cSparrowLeaves);
+        check.part("S5d", EdgeHourTest::s5dPatience);
+        check.part("S5", EdgeHourTest::s5OrderWithinAnHour);
+        check.part("S6", EdgeHourTest::s6Baked);
+        check.part("S6", EdgeHourTest::s6Sold);
+        check.part("S6", EdgeHourTest::s6Wasted);
+        check.part("S6", EdgeHourTest::s6Left);
+        check.part("S6 P41", EdgeHourTest::p41Thirty);
+        check.part("S6 P41", EdgeHourTest::p41OthersMoveUp);
+        check.part("P42 P43 P44", EdgeHourTest::p42p43p44Indexes);
+        check.part("P45 P46", EdgeHourTest::p45p46Differences);
+        check.part("P47 P48 P49", EdgeHourTest::p47p48p49Range);
+        check.part("P47", EdgeHourTest::p47SparrowsAfter);
+        check.part("P48", EdgeHourTest::p48LoavesAfter);
+        check.part("P49", EdgeHourTest::p49TradesAfter);
+        check.part("P50", EdgeHourTest::p50BestHour);
+        check.part("P51", EdgeHourTest::p51MeanAge);
+        check.part("P59", EdgeHourTest::p59PassHours);
         check.end();
     }
 
@@ -173,30 +173,30 @@ public final class EdgeHourTest {
 
     private static void p41Thirty() {
         LoafMarket m = Use.loaded("market 1 1 1;");
-        check.due("P41 none", m.eventCount(), 0);
+        check.due("S6 P41 none", m.eventCount(), 0);
         for (int number = 1; number <= 32; number++) {
             Use.join(m, "x", 0, 1, 1, 1, 1);
             m.sendAway(0);
             int count = number < 30 ? number : 30;
-            check.due("P41 after " + number + " events", m.eventCount(), count);
-            check.due("P43 the latest of " + number, m.eventFirst(count - 1), number - 1);
-            check.due("P43 the oldest of " + number, m.eventFirst(0), number - count);
+            check.due("S6 P41 after " + number + " events", m.eventCount(), count);
+            check.due("S6 P43 the latest of " + number, m.eventFirst(count - 1), number - 1);
+            check.due("S6 P43 the oldest of " + number, m.eventFirst(0), number - count);
         }
         StringBuilder due = new StringBuilder();
         for (int ticket = 2; ticket < 32; ticket++) {
             due.append(ticket == 2 ? "" : " ").append("3:").append(ticket).append(":2");
         }
-        check.dueText("P42 P43 P44 the latest 30 of 32", Use.events(m), due.toString());
-        check.due("P42 the type moves with it", m.eventType(0), LoafMarket.LEFT);
+        check.dueText("S6 P42 P43 P44 the latest 30 of 32", Use.events(m), due.toString());
+        check.due("S6 P42 the type moves with it", m.eventType(0), LoafMarket.LEFT);
         check.due("P44 the second number moves with it", m.eventSecond(0), 2);
         // 30 baked loaves that are wasted in one hour push all others out
         String bakers = "market 1 1 1;baker a 12 1;baker b 12 1;baker c 6 1;";
         LoafMarket all = Use.loaded(bakers + "bake a roll;bake b roll;bake c roll;hours 1;hours 4;");
-        check.due("P41 30 events in an hour", all.eventCount(), 30);
-        check.dueText("P42 the oldest is the first one wasted", all.eventType(0) + ":" + all.eventFirst(0) + ":" + all.eventSecond(0), "2:2:0");
+        check.due("S6 P41 30 events in an hour", all.eventCount(), 30);
+        check.dueText("S6 P42 the oldest is the first one wasted", all.eventType(0) + ":" + all.eventFirst(0) + ":" + all.eventSecond(0), "2:2:0");
         LoafMarket kept = Use.loaded(bakers + "baker d 1 9;bake a roll;bake b roll;hours 1;bake d rye;hours 4;");
-        check.due("P41 26 events", kept.eventCount(), 26);
-        check.due("P42 the oldest is the first one baked", kept.eventType(0), LoafMarket.BAKED);
+        check.due("S6 P41 26 events", kept.eventCount(), 26);
+        check.due("S6 P42 the oldest is the first one baked", kept.eventType(0), LoafMarket.BAKED);
     }
 
     /** Thirty events of two types, and then one more. */
@@ -210,10 +210,10 @@ public final class EdgeHourTest {
         }
         LoafMarket m = new LoafMarket();
         loadLong(m, text.toString());
-        check.dueText("P41 thirty events", Use.events(m), String.join(" ", all));
+        check.dueText("S6 P41 thirty events", Use.events(m), String.join(" ", all));
         m.bake(1, 0);
         m.passHours(1);
-        check.dueText("P41 the oldest is forgotten", Use.events(m), String.join(" ", java.util.Arrays.copyOfRange(all, 1, 30)) + " 0:1:3");
+        check.dueText("S6 P41 the oldest is forgotten", Use.events(m), String.join(" ", java.util.Arrays.copyOfRange(all, 1, 30)) + " 0:1:3");
         m.undo();
         check.dueText("S8 and comes back with undo", Use.events(m), String.join(" ", all));
     }
@@ -290,7 +290,7 @@ public final class EdgeHourTest {
         check.due("P47 after 0 hours", m.sparrowsAfter(0), 2);
         check.due("P48 after 0 hours", m.loavesAfter(0), 10);
         check.due("P49 after 0 hours", m.tradesAfter(0, 0), 2);
-        check.due("P49 after 100 hours", m.tradesAfter(2, 100), 0);
+        check.due("S8 P49 at most 100 hours", m.tradesAfter(2, 100), 0);
         Twin.refusedArgument(check, "P47 sparrowsAfter(101)", Twin::rich, t -> t.sparrowsAfter(101));
         Twin.refusedArgument(check, "P48 loavesAfter(101)", Twin::rich, t -> t.loavesAfter(101));
         Twin.refusedArgument(check, "P49 tradesAfter(0, 101)", Twin::rich, t -> t.tradesAfter(0, 101));
@@ -312,7 +312,7 @@ public final class EdgeHourTest {
         check.due("P11 crumbs", m.crumbs(), 2700);
         check.due("P47 after 98 hours", m.sparrowsAfter(98), 9);
         check.due("P47 after 99 hours", m.sparrowsAfter(99), 9);
-        check.due("P47 after 100 hours", m.sparrowsAfter(100), 8);
+        check.due("S8 P47 at most 100 hours", m.sparrowsAfter(100), 8);
         check.due("P11 no crumb is gone", m.crumbs(), 2700);
         LoafMarket go = Use.loaded("market 1 1 1;sparrows 9 0;");
         for (int hours = 0; hours <= 11; hours++) {
@@ -328,7 +328,7 @@ public final class EdgeHourTest {
         check.due("P48 when the wheat loaf is stale", m.loavesAfter(20), 12);
         check.due("P48 before the rye loaves are stale", m.loavesAfter(82), 12);
         check.due("P48 when the rye loaves are stale", m.loavesAfter(83), 0);
-        check.due("P48 after 100 hours", m.loavesAfter(100), 0);
+        check.due("S8 P48 at most 100 hours", m.loavesAfter(100), 0);
         check.due("P10 none has come meanwhile", m.loafCount(), 1);
     }
 

@@ -9,36 +9,36 @@ public final class EdgeInputTest {
     private static final String[] STATEMENTS = {"baker x 1 1 ;", "bake a rye ;", "customer x rye 1 1 1 1 ;", "auction rye ;", "sparrows 1 1 ;", "hours 1 ;"};
 
     public static void main(String[] args) {
-        p1StateOfANewObject();
-        p1EmptyParts();
-        p2PlacesOfTheBytes();
-        p2NewLength();
-        p2Full();
-        p3Range();
-        p3BytesBeyondAreGone();
-        p4BufferIsEmptyAfterwards();
-        p4ErrorLeavesTheRest();
-        p4ReturnsTheQueue();
-        p4NothingOfAnotherMarketIsLeft();
-        p4ReplacesTheWholeState();
-        p5p6LatestCall();
-        s7SeparatorsAndTokens();
-        s7WordsAndNumbers();
-        s7FirstWords();
-        s7MarketIsFirstAndOnlyThere();
-        s7TextEndsTooEarly();
-        s7TokenNotAllowed();
-        s7RangesOfNumbers();
-        s7LongNumbers();
-        s7LastBytesOfTheBuffer();
-        s7NewNames();
-        s7NamesTaken();
-        s7NameAfterBake();
-        s7FourBakers();
-        s7TenCustomers();
-        s7SemicolonOfBake();
-        s7FirstErrorAndSmallestCode();
-        s7OrderOfTheText();
+        check.part("P1", EdgeInputTest::p1StateOfANewObject);
+        check.part("P1", EdgeInputTest::p1EmptyParts);
+        check.part("P2", EdgeInputTest::p2PlacesOfTheBytes);
+        check.part("P2", EdgeInputTest::p2NewLength);
+        check.part("P2", EdgeInputTest::p2Full);
+        check.part("P3", EdgeInputTest::p3Range);
+        check.part("P3", EdgeInputTest::p3BytesBeyondAreGone);
+        check.part("P4", EdgeInputTest::p4BufferIsEmptyAfterwards);
+        check.part("P4", EdgeInputTest::p4ErrorLeavesTheRest);
+        check.part("P4", EdgeInputTest::p4ReturnsTheQueue);
+        check.part("P4", EdgeInputTest::p4NothingOfAnotherMarketIsLeft);
+        check.part("P4", EdgeInputTest::p4ReplacesTheWholeState);
+        check.part("P5 P6", EdgeInputTest::p5p6LatestCall);
+        check.part("S7", EdgeInputTest::s7SeparatorsAndTokens);
+        check.part("S7", EdgeInputTest::s7WordsAndNumbers);
+        check.part("S7", EdgeInputTest::s7FirstWords);
+        check.part("S7", EdgeInputTest::s7MarketIsFirstAndOnlyThere);
+        check.part("S7", EdgeInputTest::s7TextEndsTooEarly);
+        check.part("S7", EdgeInputTest::s7TokenNotAllowed);
+        check.part("S7", EdgeInputTest::s7RangesOfNumbers);
+        check.part("S7", EdgeInputTest::s7LongNumbers);
+        check.part("S7", EdgeInputTest::s7LastBytesOfTheBuffer);
+        check.part("S7", EdgeInputTest::s7NewNames);
+        check.part("S7", EdgeInputTest::s7NamesTaken);
+        check.part("S7", EdgeInputTest::s7NameAfterBake);
+        check.part("S7", EdgeInputTest::s7FourBakers);
+        check.part("S7", EdgeInputTest::s7TenCustomers);
+        check.part("S7", EdgeInputTest::s7SemicolonOfBake);
+        check.part("S7", EdgeInputTest::s7FirstErrorAndSmallestCode);
+        check.part("S7", EdgeInputTest::s7OrderOfTheText);
         check.end();
     }
 
@@ -272,28 +272,34 @@ public final class EdgeInputTest {
 
     private static void p5p6LatestCall() {
         LoafMarket m = new LoafMarket();
-        check.dueText("P5 P6 before load", Twin.look("error", m), "0 at -1");
-        latest(m, "", "1 at 0");
-        latest(m, M + "hours 61;", "2 at 21");
-        latest(m, M, "0 at -1");
-        latest(m, M, "0 at -1");
-        latest(m, M + "baker a 1 1;baker a 1 1;", "3 at 33");
-        latest(m, M + "bake a rye;", "4 at 20");
-        latest(m, M + "baker a 1 1;baker b 1 1;baker c 1 1;baker d 1 1;baker e 1 1;", "5 at 63");
-        latest(m, M + "baker a 1 1;bake a rye;bake a rye;", "6 at 48");
+        errorIs("before load", m, 0, LoafMarket.NONE);
+        latest(m, "", 1, 0);
+        latest(m, M + "hours 61;", 2, 21);
+        latest(m, M, 0, LoafMarket.NONE);
+        latest(m, M, 0, LoafMarket.NONE);
+        latest(m, M + "baker a 1 1;baker a 1 1;", 3, 33);
+        latest(m, M + "bake a rye;", 4, 20);
+        latest(m, M + "baker a 1 1;baker b 1 1;baker c 1 1;baker d 1 1;baker e 1 1;", 5, 63);
+        latest(m, M + "baker a 1 1;bake a rye;bake a rye;", 6, 48);
         m.undo();
-        check.dueText("P5 P6 undo leaves the error", Twin.look("error", m), "6 at 48");
-        latest(m, FIRST, "0 at -1");
+        errorIs("after an undo, which leaves the error", m, 6, 48);
+        latest(m, FIRST, 0, LoafMarket.NONE);
         m.undo();
-        check.dueText("P5 P6 undo leaves no error", Twin.look("error", m), "0 at -1");
+        errorIs("after an undo, which leaves no error", m, 0, LoafMarket.NONE);
     }
 
-    private static void latest(LoafMarket m, String text, String due) {
-        String before = Twin.look("error", m);
+    private static void latest(LoafMarket m, String text, int code, int position) {
+        int codeBefore = m.errorCode();
+        int positionBefore = m.errorPosition();
         Use.feed(m, text);
-        check.dueText("P5 P6 bytes alone are no call of load", Twin.look("error", m), before);
+        errorIs("after bytes alone, which are no call of load", m, codeBefore, positionBefore);
         Twin.tryLoad(m);
-        check.dueText("P5 P6 after " + text, Twin.look("error", m), due);
+        errorIs("after " + text, m, code, position);
+    }
+
+    private static void errorIs(String when, LoafMarket m, int code, int position) {
+        check.due("P5 the code " + when, m.errorCode(), code);
+        check.due("P6 the position " + when, m.errorPosition(), position);
     }
 
     // ---- section 7: tokens ----

@@ -12,29 +12,33 @@ public final class EdgeQuestionTest {
             + "bake a rye;hours 1;bake a rye;hours 1;bake a rye;hours 1;bake a rye;hours 1;";
 
     public static void main(String[] args) {
-        p7Hour();
-        p8p9p10Counts();
-        p11p12CrumbsAndSparrows();
-        bakerIndexes();
-        p13BakerNameByte();
-        p14OvenSize();
-        p15p16BakingKindAndHoursLeft();
-        p17Income();
-        p18Refusal();
-        customerIndexes();
-        p19CustomerNameByte();
-        p20to25Customers();
-        p26CustomerWithTicket();
-        loafIndexes();
-        p27p28LoavesMoveUp();
-        p29LoafAge();
-        p30ReservePrice();
-        p31HoursUntilStale();
-        p32BasePrice();
-        p33ReserveAt();
-        s1Rye();
-        s1Wheat();
-        s1Roll();
+        check.part("P7", EdgeQuestionTest::p7Hour);
+        check.part("P8 P9 P10", EdgeQuestionTest::p8p9p10Counts);
+        check.part("P11 P12", EdgeQuestionTest::p11p12CrumbsAndSparrows);
+        check.part("P13 P14 P15 P16 P17 P18", EdgeQuestionTest::bakerIndexes);
+        check.part("P13", EdgeQuestionTest::p13BakerNameByte);
+        check.part("P14", EdgeQuestionTest::p14OvenSize);
+        check.part("P15 P16", EdgeQuestionTest::p15p16BakingKindAndHoursLeft);
+        check.part("P17", EdgeQuestionTest::p17Income);
+        check.part("P18", EdgeQuestionTest::p18Refusal);
+        check.part("P19 P20 P21 P22 P23 P24 P25", EdgeQuestionTest::customerIndexes);
+        check.part("P19", EdgeQuestionTest::p19CustomerNameByte);
+        check.part("P20 P21 P22 P23 P24 P25", EdgeQuestionTest::p20to25Customers);
+        check.part("P26", EdgeQuestionTest::p26CustomerWithTicket);
+        check.part("P27 P28 P29 P30 P31", EdgeQuestionTest::loafIndexes);
+        check.part("S2 P27 P28", EdgeQuestionTest::p27p28LoavesMoveUp);
+        check.part("P29", EdgeQuestionTest::p29LoafAge);
+        check.part("P30", EdgeQuestionTest::p30ReservePrice);
+        check.part("P31", EdgeQuestionTest::p31HoursUntilStale);
+        check.part("P32", EdgeQuestionTest::p32BasePrice);
+        check.part("P33", EdgeQuestionTest::p33ReserveAt);
+        check.part("S2", EdgeQuestionTest::s2Bakers);
+        check.part("S2", EdgeQuestionTest::s2Reasons);
+        check.part("S3", EdgeQuestionTest::s3OrderAndTickets);
+        check.part("S3", EdgeQuestionTest::s3Names);
+        check.part("S1", EdgeQuestionTest::s1Rye);
+        check.part("S1", EdgeQuestionTest::s1Wheat);
+        check.part("S1", EdgeQuestionTest::s1Roll);
         check.end();
     }
 
@@ -316,6 +320,12 @@ public final class EdgeQuestionTest {
     }
 
     private static void p27p28LoavesMoveUp() {
+        LoafMarket each = Use.loaded("market 9 9 9;baker a 1 1;baker b 1 1;baker c 1 1;baker d 2 1;bake a roll;bake b rye;bake c wheat;bake d roll;hours 1;");
+        int[] kinds = {2, 0, 1, 2, 2};
+        for (int loaf = 0; loaf < 5; loaf++) {
+            check.due("P27 the kind of loaf " + loaf, each.loafKind(loaf), kinds[loaf]);
+            check.due("P28 the baker of loaf " + loaf, each.loafBaker(loaf), loaf < 3 ? loaf : 3);
+        }
         String text = "market 9 9 1;baker a 1 1;baker b 1 1;baker c 1 1;bake a rye;bake b roll;bake c wheat;hours 1;";
         check.dueText("S2 in the order in which they came", Use.stock(Use.loaded(text)), "0:0:0 2:1:0 1:2:0");
         LoafMarket sold = Use.loaded(text + "customer x rye 1 9 9 9;auction rye;");
@@ -414,6 +424,71 @@ public final class EdgeQuestionTest {
         }
         Twin.refusedIndex(check, "P33 reserveAt(3, 1000)", Twin::rich, t -> t.reserveAt(3, 1000));
         Twin.refusedArgument(check, "P33 reserveAt(0, 1000)", Twin::rich, t -> t.reserveAt(0, 1000));
+    }
+
+    // ---- sections 1 to 3 ----
+
+    private static void s2Bakers() {
+        LoafMarket m = Use.loaded(FOUR);
+        check.due("S2 at most 4 bakers", m.bakerCount(), 4);
+        check.dueText("S2 a fifth one is refused", Use.verdict(FOUR + "baker z 1 1;"), "5 at " + FOUR.length());
+        String[] names = {"a", "bcde", "fg", "hij"};
+        int[] ovens = {1, 12, 5, 2};
+        int[] kinds = {LoafMarket.NONE, 2, 1, LoafMarket.NONE};
+        int[] left = {0, 9, 3, 0};
+        for (int i = 0; i < 4; i++) {
+            check.dueText("S2 numbered in the order of the text", Use.bakerName(m, i), names[i]);
+            check.due("S2 the oven of " + names[i], m.ovenSize(i), ovens[i]);
+            check.due("S2 the kind that is baked by " + names[i], m.bakingKind(i), kinds[i]);
+            check.due("S2 the hours left of " + names[i], m.hoursLeft(i), left[i]);
+        }
+    }
+
+    private static void s2Reasons() {
+        LoafMarket room = Use.loaded(MANY + "bake b rye;");
+        check.due("S2 1, the baker bakes already", room.bakeRefusal(1, 0), 1);
+        check.due("S2 48, 11 and 1 are 60", room.bakeRefusal(2, 0), 0);
+        check.due("S2 2, as 48, 11 and 2 are 61", room.bakeRefusal(3, 0), 2);
+        room.bake(2, 0);
+        check.due("S2 1 is the first reason where both apply", room.bakeRefusal(1, 0), 1);
+        room.passHours(1);
+        check.due("S2 at most 60 loaves", room.loafCount(), 60);
+        for (int baker = 0; baker < 4; baker++) {
+            int refused = baker;
+            check.due("S2 2 for all", room.bakeRefusal(baker, 0), 2);
+            check.dueState("S2 none of them begins", () -> room.bake(refused, 0));
+        }
+    }
+
+    private static void s3OrderAndTickets() {
+        LoafMarket m = Use.loaded(TEN);
+        check.due("S3 at most 10 customers", m.customerCount(), 10);
+        check.dueText("S3 an eleventh one is refused", Use.verdict(TEN + "customer z rye 1 1 1 1;"), "5 at " + TEN.length());
+        check.dueText("S3 in the order in which they came", Use.queue(m),
+                "a*9r@99 bcde*1w@1 f*2o@3 g*1r@1 h*1r@1 i*1r@1 j*1r@1 k*1r@1 l*1r@1 mn*8o@98");
+        for (int place = 0; place < 10; place++) {
+            check.due("S3 tickets 0, 1, 2 and so on", m.ticketOf(place), place);
+        }
+        m.sendAway(9);
+        m.sendAway(0);
+        check.due("S3 the ticket of one who left is not used again", Use.join(m, "z", 0, 1, 1, 1, 9), 10);
+        check.due("S3 nor is the next one", Use.join(m, "a", 0, 1, 1, 1, 9), 11);
+        check.dueText("S3 new ones come last", Use.queue(m),
+                "bcde*1w@1 f*2o@3 g*1r@1 h*1r@1 i*1r@1 j*1r@1 k*1r@1 l*1r@1 z*1r@1 a*1r@1");
+    }
+
+    private static void s3Names() {
+        String[] taken = {"ann", "bob", "cid", "dot", "eli"};
+        for (String name : taken) {
+            LoafMarket m = new LoafMarket();
+            check.dueState("S3 the name " + name + " is taken", () -> Use.join(m, name, 0, 1, 1, 1, 1));
+            check.due("S3 and its part is not", Use.join(m, name.substring(0, 2), 0, 1, 1, 1, 1), 3);
+            check.due("S3 nor what is longer by a letter", Use.join(m, name + "a", 0, 1, 1, 1, 1), 4);
+        }
+        check.dueText("S3 two bakers", Use.verdict(M + "baker a 1 1;baker a 1 1;"), "3 at 33");
+        check.dueText("S3 a baker and a customer", Use.verdict(M + "baker a 1 1;customer a rye 1 1 1 1;"), "3 at 36");
+        check.dueText("S3 a customer and a baker", Use.verdict(M + "customer a rye 1 1 1 1;baker a 1 1;"), "3 at 44");
+        check.dueText("S3 two customers", Use.verdict(M + "customer a rye 1 1 1 1;customer a rye 1 1 1 1;"), "3 at 47");
     }
 
     /** Each row: base price, age, the price that is due. */

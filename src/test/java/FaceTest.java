@@ -77,6 +77,7 @@ public final class FaceTest {
         constants();
         classes();
         source();
+        everyPromiseHasATest();
         check.end();
     }
 
@@ -172,5 +173,20 @@ public final class FaceTest {
             }
         }
         check.dueTrue("the last method has an end", close.isEmpty());
+    }
+
+    /** Each promise and each section is named by a part of an edge test. */
+    private static void everyPromiseHasATest() throws Exception {
+        StringBuilder named = new StringBuilder(" ");
+        for (String part : new String[] {"Input", "Question", "Auction", "Hour", "Change"}) {
+            String text = Files.readString(Path.of("src/test/java/Edge" + part + "Test.java"));
+            text.lines().filter(line -> line.contains("check.part(\"")).forEach(line -> named.append(line.split("\"")[1]).append(' '));
+        }
+        for (int promise = 1; promise <= 65; promise++) {
+            check.dueTrue("promise " + promise + " has a test", named.indexOf(" P" + promise + " ") >= 0);
+        }
+        for (int section = 1; section <= 8; section++) {
+            check.dueTrue("section " + section + " has a test", named.indexOf(" S" + section + " ") >= 0);
+        }
     }
 }
